@@ -60,8 +60,7 @@ public final class RolledPicks {
     private final Book[] pile = new Book[MOST_IMAGES];
     private int images;
     private final Owners owners = new Owners();
-    private final Tape tape = new Tape();
-    private final Reader reader = new Reader(tape);
+    private final Reader reader = new Reader();
     private final Sheet[] sheets = new Sheet[SHEETS];
     private final Deal[] spots = new Deal[SPOTS];
     /** THE CLASH: STANDING, PICK, 0 to 2. */
@@ -144,7 +143,7 @@ public final class RolledPicks {
     public int text() {
         int known = book.dealCount;
         int came = reader.readText(book);
-        tape.length = 0;
+        reader.tape.length = 0;
         for (int i = 0; i < came; i++) {
             if (!takes(reader.cameAt(i))) {
                 book.dealCount = known;
@@ -233,7 +232,8 @@ public final class RolledPicks {
         int club = pick % CLUBS;
         int length = 1;
         for (int k = 0; k < book.dealCount && length != i + 1; k++) {
-            int next = book.nextBy(k, standing, pick);
+            Deal deal = book.dealAt(k);
+            int next = deal == null ? -1 : deal.takerOf(standing, pick);
             if (next >= 0) {
                 club = next;
                 length++;
@@ -422,18 +422,18 @@ public final class RolledPicks {
         if (n < 1 || n > 4) {
             return finding(BEYOND);
         }
-        if (tape.length + n > MOST_BYTES) {
+        if (reader.tape.length + n > MOST_BYTES) {
             return finding(FULL);
         }
         for (int i = n - 1; i >= 0; i--) {
-            tape.add((byte) (bytes >>> (8 * i)));
+            reader.tape.add((byte) (bytes >>> (8 * i)));
         }
-        return tape.length;
+        return reader.tape.length;
     }
 
     public int wipe() {
-        int had = tape.length;
-        tape.length = 0;
+        int had = reader.tape.length;
+        reader.tape.length = 0;
         return had;
     }
 
@@ -554,7 +554,7 @@ public final class RolledPicks {
             case 2: return book.openCount();
             case 3: return images;
             case 4: return book.z;
-            case 5: return tape.length;
+            case 5: return reader.tape.length;
             case 6: return countHeld();
             default: return finding(BEYOND);
         }
@@ -768,17 +768,23 @@ public final class RolledPicks {
 
         /** The PICK that it CONVEYS FROM TO, -1 where it LAPSES. */
         int gives(int standing) {
-            if (!isMet(standing)) {
+            if (condition != null && !condition.has(standing)) {
                 return -1;
             }
+            int place = placeUnder(standing, pick);
             switch (kind) {
-                case GUARD: return placeUnder(standing, pick) >= n ? pick : -1;
-                case TAIL: return placeUnder(standing, pick) < n ? pick : -1;
-                case ROLL: return rolls(standing);
-                case SWAP: return lead(standing) >= 1 ? pick : -1;
-                case CHOICE: return lead(standing) >= n ? pick : -1;
+                case GUARD: return place >= n ? pick : -1;
+                case TAIL: return place < n ? pick : -1;
+                case SWAP: return place - placeUnder(standing, other) >= 1 ? pick : -1;
+                case CHOICE: return place - placeUnder(standing, other) >= n ? pick : -1;
+                case ROLL: break;
                 default: return pick;
             }
+            int rolled = pick;
+            for (int need = n; rolled < PICKS && placeUnder(standing, rolled) < need; need--) {
+                rolled += CLUBS;
+            }
+            return rolled < PICKS ? rolled : -1;
         }
 
         /** The PICK that it CONVEYS TO FROM, -1 where there is none. */
@@ -796,21 +802,6 @@ public final class RolledPicks {
 
         private boolean mayGive(int p) {
             return p == pick || kind == ROLL && p > pick && p % CLUBS == pick % CLUBS;
-        }
-
-        private int rolls(int standing) {
-            int need = n;
-            for (int p = pick; p < PICKS; p += CLUBS) {
-                if (placeUnder(standing, p) >= need) {
-                    return p;
-                }
-                need--;
-            }
-            return -1;
-        }
-
-        private int lead(int standing) {
-            return placeUnder(standing, pick) - placeUnder(standing, other);
         }
     }
 
@@ -868,11 +859,6 @@ public final class RolledPicks {
             return -1;
         }
 
-        int nextBy(int k, int standing, int p) {
-            Deal deal = dealAt(k);
-            return deal == null ? -1 : deal.takerOf(standing, p);
-        }
-
         /**
          * The CLASH (-1: none) that one DEAL more would bring by conveying a PICK. The DEALS
          * taken don't CLASH, and each came where the CHAIN then ended: so they stand along it
@@ -882,7 +868,8 @@ public final class RolledPicks {
             int last = p % CLUBS;
             int had = 1 << last;
             for (int k = 0; k < dealCount; k++) {
-                int next = nextBy(k, standing, p);
+                Deal deal = dealAt(k);
+                int next = deal == null ? -1 : deal.takerOf(standing, p);
                 if (next >= 0) {
                     last = next;
                     had |= 1 << last;
@@ -1006,21 +993,27 @@ public final class RolledPicks {
             return (words[standing >> 6] >> (standing & 63) & 1) != 0;
         }
 
-        void beAhead(int pick, int rival) {
+        void becomeAhead(int pick, int rival) {
             for (int standing = 0; standing < STANDINGS; standing++) {
                 set(standing, placeUnder(standing, pick) < placeUnder(standing, rival));
             }
         }
 
-        void beAt(int pick, int place) {
+        void becomeAt(int pick, int place) {
             for (int standing = 0; standing < STANDINGS; standing++) {
                 set(standing, placeUnder(standing, pick) == place);
             }
         }
 
-        void beLapsed(Deal deal) {
+        void becomeLapsed(Deal deal) {
             for (int standing = 0; standing < STANDINGS; standing++) {
                 set(standing, deal.gives(standing) < 0);
+            }
+        }
+
+        void clear() {
+            for (int i = 0; i < WORDS; i++) {
+                words[i] = 0;
             }
         }
 
@@ -1091,15 +1084,10 @@ public final class RolledPicks {
             return true;
         }
 
-        /** Goes on to the next TOKEN if this one is a NUMBER of that range (from 0 on); else -1. */
-        int takeNumber(int least, int most) {
-            return takeOtherNumber(least, most, -1);
-        }
-
-        /** The same for a NUMBER that must be another one than one told. */
-        int takeOtherNumber(int least, int most, int but) {
+        /** Goes on if this TOKEN is a NUMBER of that range (from 0 on), and not the one barred; else -1. */
+        int takeNumber(int least, int most, int barred) {
             int v = isAtEnd() || !isDigit(bytes[tokenAt]) ? -1 : tokenNumber();
-            if (v < least || v > most || v == but) {
+            if (v < least || v > most || v == barred) {
                 return -1;
             }
             step();
@@ -1148,14 +1136,13 @@ public final class RolledPicks {
      * no later deal, fall or drop changes under which STANDINGS they hold.
      */
     private static final class Reader {
-        private final Tape tape;
+        final Tape tape = new Tape();
         private final Deal[] came = new Deal[MOST_DEALS];
         private int cameCount;
-        /** Two rows a depth: what comes behind an or, what comes behind an and. */
+        /** Two rows a depth: a T, and what comes behind an and of it. */
         private final Standings[] spare = new Standings[2 * (MOST_NESTED + 1)];
 
-        Reader(Tape tape) {
-            this.tape = tape;
+        Reader() {
             for (int i = 0; i < spare.length; i++) {
                 spare[i] = new Standings();
             }
@@ -1183,41 +1170,32 @@ public final class RolledPicks {
             if (book.dealCount + cameCount >= MOST_DEALS || !tape.takes("from")) {
                 return false;
             }
-            int from = tape.takeNumber(0, CLUBS - 1);
+            int from = tape.takeNumber(0, CLUBS - 1, -1);
             if (from < 0 || !tape.takes("to")) {
                 return false;
             }
-            int to = tape.takeOtherNumber(0, CLUBS - 1, from);
+            int to = tape.takeNumber(0, CLUBS - 1, from);
             if (to < 0 || !tape.takes("pick")) {
                 return false;
             }
-            int pick = tape.takeNumber(book.fallenYears * CLUBS, PICKS - 1);
-            return pick >= 0 && readTail(book, from, to, pick);
-        }
-
-        private boolean readTail(Book book, int from, int to, int pick) {
+            int pick = tape.takeNumber(book.fallenYears * CLUBS, PICKS - 1, -1);
+            if (pick < 0) {
+                return false;
+            }
             int kind = readKind();
-            int other = -1;
-            if (kind == SWAP || kind == CHOICE) {
-                int first = pick / CLUBS * CLUBS;
-                other = tape.takeOtherNumber(first, first + CLUBS - 1, pick);
-                if (other < 0) {
-                    return false;
-                }
+            boolean hasOther = kind == SWAP || kind == CHOICE;
+            int first = pick / CLUBS * CLUBS;
+            int other = hasOther ? tape.takeNumber(first, first + CLUBS - 1, pick) : -1;
+            if (hasOther && other < 0) {
+                return false;
             }
-            int n = 0;
-            if (kind != DEAL && kind != SWAP) {
-                n = tape.takeNumber(1, MOST_N);
-                if (n < 0) {
-                    return false;
-                }
+            int n = kind == DEAL || kind == SWAP ? 0 : tape.takeNumber(1, MOST_N, -1);
+            if (n < 0) {
+                return false;
             }
-            Standings condition = null;
-            if (tape.takes("if")) {
-                condition = new Standings();
-                if (!readAny(book, condition, 0)) {
-                    return false;
-                }
+            Standings condition = tape.takes("if") ? new Standings() : null;
+            if (condition != null && !readAny(book, condition, 0)) {
+                return false;
             }
             came[cameCount] = new Deal(kind, from, to, pick, other, n, condition);
             cameCount++;
@@ -1240,32 +1218,27 @@ public final class RolledPicks {
             return tape.takes("choice") ? CHOICE : DEAL;
         }
 
-        /** E: one of the parts between or. */
+        /** E, with its Ts: of the parts between or one holds, all of whose parts between and do. */
         private boolean readAny(Book book, Standings into, int depth) {
-            if (depth > MOST_NESTED || !readEvery(book, into, depth)) {
+            if (depth > MOST_NESTED) {
                 return false;
             }
-            Standings part = spare[2 * depth];
-            for (int i = 0; i < MOST_BYTES && tape.takes("or"); i++) {
-                if (!readEvery(book, part, depth)) {
+            Standings every = spare[2 * depth];
+            Standings one = spare[2 * depth + 1];
+            into.clear();
+            boolean more = true;
+            for (int i = 0; i < MOST_BYTES && more; i++) {
+                if (!readOne(book, every, depth)) {
                     return false;
                 }
-                into.join(part);
-            }
-            return true;
-        }
-
-        /** T: every one of the parts between and. */
-        private boolean readEvery(Book book, Standings into, int depth) {
-            if (!readOne(book, into, depth)) {
-                return false;
-            }
-            Standings part = spare[2 * depth + 1];
-            for (int i = 0; i < MOST_BYTES && tape.takes("and"); i++) {
-                if (!readOne(book, part, depth)) {
-                    return false;
+                for (int j = 0; j < MOST_BYTES && tape.takes("and"); j++) {
+                    if (!readOne(book, one, depth)) {
+                        return false;
+                    }
+                    every.meet(one);
                 }
-                into.meet(part);
+                into.join(every);
+                more = tape.takes("or");
             }
             return true;
         }
@@ -1280,45 +1253,35 @@ public final class RolledPicks {
             if (depth < MOST_NESTED && tape.takes("(")) {
                 return readAny(book, into, depth + 1) && tape.takes(")");
             }
-            if (tape.takes("ahead")) {
-                return readAhead(into);
+            if (tape.takes("lapsed")) {
+                Deal deal = dealByThen(book, tape.takeNumber(0, book.dealCount + cameCount - 1, -1));
+                if (deal != null) {
+                    into.becomeLapsed(deal);
+                }
+                return deal != null;
             }
-            if (tape.takes("at")) {
-                return readAt(into);
-            }
-            return tape.takes("lapsed") && readLapsed(book, into);
-        }
-
-        private boolean readAhead(Standings into) {
-            int year = tape.takeNumber(0, YEARS - 1);
-            int club = year < 0 ? -1 : tape.takeNumber(0, CLUBS - 1);
-            int rival = club < 0 ? -1 : tape.takeOtherNumber(0, CLUBS - 1, club);
-            if (rival < 0) {
+            boolean ahead = tape.takes("ahead");
+            if (!ahead && !tape.takes("at")) {
                 return false;
             }
-            into.beAhead(year * CLUBS + club, year * CLUBS + rival);
+            int year = tape.takeNumber(0, YEARS - 1, -1);
+            int club = year < 0 ? -1 : tape.takeNumber(0, CLUBS - 1, -1);
+            // Behind at it is a place, and there are as many of these as CLUBS.
+            int last = club < 0 ? -1 : tape.takeNumber(0, CLUBS - 1, ahead ? club : -1);
+            if (last < 0) {
+                return false;
+            }
+            int pick = year * CLUBS + club;
+            if (ahead) {
+                into.becomeAhead(pick, year * CLUBS + last);
+            } else {
+                into.becomeAt(pick, last);
+            }
             return true;
         }
 
-        private boolean readAt(Standings into) {
-            int year = tape.takeNumber(0, YEARS - 1);
-            int club = year < 0 ? -1 : tape.takeNumber(0, CLUBS - 1);
-            int at = club < 0 ? -1 : tape.takeNumber(0, CLUBS - 1);
-            if (at < 0) {
-                return false;
-            }
-            into.beAt(year * CLUBS + club, at);
-            return true;
-        }
-
-        private boolean readLapsed(Book book, Standings into) {
-            int k = tape.takeNumber(0, book.dealCount + cameCount - 1);
-            Deal deal = k < book.dealCount ? book.dealAt(k) : cameAt(k - book.dealCount);
-            if (deal == null) {
-                return false;
-            }
-            into.beLapsed(deal);
-            return true;
+        private Deal dealByThen(Book book, int k) {
+            return k < book.dealCount ? book.dealAt(k) : cameAt(k - book.dealCount);
         }
     }
 }

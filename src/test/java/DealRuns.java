@@ -11,6 +11,8 @@ public final class DealRuns {
         clashes();
         leastClash();
         clashesUnderOpenAlone();
+        clashesJustOutside();
+        firstPicks();
         twelve();
         fallenYears();
         asked();
@@ -87,6 +89,9 @@ public final class DealRuns {
         DUE.is("ROLL 2 near the end", x.conveys(2, standing(0, 0, 1, 1), 0), 11);
         DUE.is("ROLL 2 that lapses", x.conveys(2, standing(0, 0, 1, 4), 0), Due.NONE);
         DUE.is("owner(0, 6)", x.owner(0, 6), 1);
+        DUE.is("chain(0, 6, 1)", x.chain(0, 6, 1), 1);
+        DUE.is("chain(0, 3, -1)", x.chain(0, 3, -1), 1);
+        DUE.is("chain(0, 10, 1)", x.chain(0, 10, 1), 2);
         DUE.is("owner(0, 0)", x.owner(0, 0), 0);
         DUE.is("chance(6, 1)", x.chance(6, 1), 1296 * 2 / 3 / 3);
         DUE.is("chance(9, 1)", x.chance(9, 1), 0);
@@ -168,6 +173,53 @@ public final class DealRuns {
         DUE.is("ROLL with no way there", r.sale(3, 0, 2, 3, 1), Due.STATE);
         isClash(r, "ROLL with no way there", 0, 6, 0);
         DUE.is("ROLL behind it", r.sale(3, 0, 2, 9, 2), 1);
+    }
+
+    /** What lies just outside the OPEN STANDINGS is no CLASH. */
+    private static void clashesJustOutside() {
+        for (int order = 0; order < 6; order++) {
+            for (int sold = 1; sold < 3; sold++) {
+                RolledPicks x = new RolledPicks();
+                x.sale(1, 0, 1, 0, sold);
+                DUE.is("clash", x.sale(3, 0, 2, 0, sold), Due.STATE);
+                x.fall(order);
+                int place = x.place(216 * order, 0);
+                DUE.is("after fall(" + order + ")", Due.text(x, "from 0 to 2 pick 3 if not lapsed 0"), 1);
+                DUE.is("of(1, 7)", x.of(1, 7), place >= sold ? 216 : 0);
+                int due = place >= sold ? Due.STATE : 2;
+                DUE.is("one more", Due.text(x, "from 0 to 1 pick 3 if not lapsed 0") == 1 ? 2 : Due.STATE, due);
+            }
+        }
+    }
+
+    private static void firstPicks() {
+        RolledPicks x = new RolledPicks();
+        DUE.is("swap", x.swap(1, 0, 1, 0, 0), 0);
+        int behind = standing(0, 0, 0, 0);
+        DUE.is("conveys", x.conveys(0, behind, 0), 1);
+        DUE.is("conveys", x.conveys(0, behind, 1), 0);
+        DUE.is("owner", x.owner(behind, 0), 1);
+        DUE.is("chain", x.chain(behind, 0, 1), 1);
+        DUE.is("swap back", x.swap(0, 1, 0, 1, 0), 1);
+        int ahead = standing(2, 0, 0, 0);
+        DUE.is("conveys", x.conveys(1, ahead, 0), 0);
+        DUE.is("conveys", x.conveys(1, ahead, 1), 1);
+        DUE.is("owner", x.owner(ahead, 1), 0);
+        DUE.is("chain", x.chain(ahead, 1, -1), 2);
+        DUE.is("chain", x.chain(ahead, 0, -1), 2);
+        DUE.is("sure", x.sure(0), 1);
+        RolledPicks y = new RolledPicks();
+        y.sale(0, 0, 2, 0, 0);
+        DUE.is("the first PICK, got back", y.swap(1, 0, 1, 0, 0), Due.STATE);
+        isClash(y, "the first PICK, got back", 0, 0, 0);
+        y.sale(0, 1, 0, 1, 0);
+        DUE.is("and only it", y.swap(0, 2, 1, 0, 2), Due.STATE);
+        isClash(y, "and only it", standing(1, 0, 0, 0), 0, 1);
+        RolledPicks z = new RolledPicks();
+        z.sale(0, 0, 1, 0, 0);
+        Due.text(z, "from 1 to 2 pick 10 if lapsed 0; from 2 to 1 pick 11 if not lapsed 0");
+        DUE.is("lapsed, of the first PICK", z.of(1, 7), 0);
+        DUE.is("not lapsed, of the first PICK", z.of(2, 7), 1296);
     }
 
     private static void clashesUnderOpenAlone() {
@@ -265,5 +317,14 @@ public final class DealRuns {
         DUE.is("prune()", x.prune(), 0);
         DUE.is("sure(4)", x.sure(4), 2);
         DUE.is("next number", x.sale(0, 1, 0, 10, 0), 2);
+        RolledPicks y = new RolledPicks();
+        y.sale(1, 0, 1, 0, 2);
+        y.sale(4, 1, 2, 1, 1);
+        y.sale(3, 2, 0, 5, 2);
+        for (int year = 0; year < 4; year++) {
+            y.fall(3);
+        }
+        DUE.is("prune() with one STANDING left", y.prune(), 0);
+        DUE.is("of(1, 7)", y.of(1, 7), 1);
     }
 }

@@ -221,6 +221,10 @@ public final class FindingRuns {
             check("swap(1, 2, 4, " + pick + ", 0)", FindingRuns::rich, Due.BEYOND, x -> x.swap(1, 2, 4, pick, 0));
             check("swap(1, 2, " + pick + ", 4, 0)", FindingRuns::rich, Due.BEYOND, x -> x.swap(1, 2, pick, 4, 0));
         }
+        for (int pick : new int[] {-1, -2, -3, MIN}) {
+            check("swap(0, 1, 1, " + pick + ", 0)", FindingRuns::bare, Due.BEYOND, x -> x.swap(0, 1, 1, pick, 0));
+            check("swap(0, 1, " + pick + ", 1, 0)", FindingRuns::bare, Due.BEYOND, x -> x.swap(0, 1, pick, 1, 0));
+        }
         for (int n : new int[] {-1, 3, MIN, MAX}) {
             check("swap(1, 2, 4, 5, " + n + ")", FindingRuns::rich, Due.BEYOND, x -> x.swap(1, 2, 4, 5, n));
         }

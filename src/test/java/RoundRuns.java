@@ -5,6 +5,7 @@ public final class RoundRuns {
     public static void main(String[] args) {
         rounds();
         roundsOfSwaps();
+        onFromSwaps();
         manyRounds();
         wrongSheets();
         lays();
@@ -57,6 +58,38 @@ public final class RoundRuns {
         DUE.is("where it lapses", x.rounds(0, 0), 2);
     }
 
+    /** The other PICK of a SWAP goes on only once it has come. */
+    private static void onFromSwaps() {
+        RolledPicks x = new RolledPicks();
+        x.swap(0, 1, 3, 4, 0);
+        x.swap(0, 1, 6, 7, 0);
+        x.sale(0, 1, 2, 9 + 1, 0);
+        DUE.is("text", Due.text(x, "from 0 to 2 pick 4 if not lapsed 0; from 0 to 2 pick 7 if not lapsed 1"), 2);
+        int both = 2 * 36 + 2 * 6;
+        tell(x, 0, 0, 3, 4, 2, 1, 0);
+        DUE.is("others go on a round later", x.rounds(0, both), 3);
+        tell(x, 0, 0, 0, 1, 2, 3, 4);
+        DUE.is("others go on at once", x.rounds(0, both), 2);
+        tell(x, 0, 0, 3, 1, 4, 0, 2);
+        DUE.is("one goes on a round later", x.rounds(0, both), 3);
+        DUE.is("where the swaps lapse", x.rounds(0, 0), 2);
+        RolledPicks y = new RolledPicks();
+        y.sale(0, 1, 2, 1, 0);
+        y.sale(0, 2, 0, 0 + 2, 0);
+        DUE.is("swap", y.swap(0, 2, 0, 1, 1), 2);
+        tell(y, 0, 0, 2, 1, 0);
+        DUE.is("the other comes a round later", y.rounds(0, 2 * 216), 3);
+        tell(y, 0, 0, 0, 2, 1);
+        DUE.is("the other comes at once", y.rounds(0, 2 * 216), 2);
+        RolledPicks z = new RolledPicks();
+        z.sale(0, 0, 1, 0, 0);
+        DUE.is("swap", z.swap(2, 1, 1 + 1, 0, 0), 1);
+        tell(z, 0, 0, 1, 0);
+        DUE.is("the other is the first PICK", z.rounds(0, 0), 3);
+        tell(z, 0, 0, 0, 1);
+        DUE.is("the other is the first PICK", z.rounds(0, 0), 2);
+    }
+
     private static void manyRounds() {
         RolledPicks x = new RolledPicks();
         for (int pick = 0; pick < 6; pick++) {
@@ -105,7 +138,8 @@ public final class RoundRuns {
         RolledPicks x = new RolledPicks();
         x.sale(0, 2, 0, 5, 0);
         x.sale(4, 1, 2, 10, 2);
-        int[] due = {0, 1, 2, 0, 1, 0, 0, 1, 2, 0, 2, 2};
+        x.sale(0, 0, 1, 0, 0);
+        int[] due = {1, 1, 2, 0, 1, 0, 0, 1, 2, 0, 2, 2};
         for (int sort = 0; sort < 3; sort++) {
             x.sheet(1, sort, 14);
             x.write(1, 12, 55);

@@ -59,6 +59,9 @@ public final class SheetRuns {
         DUE.is("item(0, 40)", x.item(0, 40), Due.LONG_BEYOND);
         DUE.is("sheet(0, 2, 40)", x.sheet(0, 2, 40), 40);
         DUE.is("item(0, 39)", x.item(0, 39), 0);
+        x.write(0, 0, 5);
+        DUE.is("sheet(0, 2, 3)", x.sheet(0, 2, 3), 3);
+        DUE.is("item(0, 0)", x.item(0, 0), 0);
         DUE.is("sheet(0, 1, 0)", x.sheet(0, 1, 0), 0);
         DUE.is("item(0, 0)", x.item(0, 0), Due.LONG_BEYOND);
         DUE.is("sheet(0, -1, -5)", x.sheet(0, -1, -5), 0);

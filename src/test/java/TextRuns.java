@@ -10,6 +10,8 @@ public final class TextRuns {
         endsTooEarly();
         nesting();
         conditions();
+        leftOvers();
+        deepConditions();
         binding();
         lapsed();
         lapsedOutlives();
@@ -75,6 +77,8 @@ public final class TextRuns {
         isFault("|fro 0 to 1 pick 0");
         isFault("|frommm 0 to 1 pick 0");
         isFault("|fromto 0");
+        isFault("|fromz 0 to 1 pick 0");
+        isFault("|afrom 0 to 1 pick 0");
         isFault("from 0 |tto 1 pick 0");
         isFault("from 0 to 1 pick 0|\u0000");
         isFault("from 0 to 1 pick 0|\u00e9");
@@ -135,6 +139,11 @@ public final class TextRuns {
         isFault("from 0 to 1 pick 4 swap |4");
         isFault("from 0 to 1 pick 4 swap |2");
         isFault("from 0 to 1 pick 4 swap |6");
+        isFault("from 0 to 1 pick 4 swap |if at 0 0 0");
+        isFault("from 0 to 1 pick 4 swap |; from 0 to 1 pick 3");
+        isFault("from 0 to 1 pick 1 choice |1 1");
+        isText("from 1 to 0 pick 1 choice 0 2", 1);
+        isText("from 1 to 0 pick 1 swap 0", 1);
         isFault("from 0 to 1 pick 4 choice |4 1");
         isFault("from 0 to 1 pick 4 choice |6 1");
         isFault("from 0 to 1 pick 4 choice 3 |0");
@@ -163,6 +172,15 @@ public final class TextRuns {
             x.sale(0, 0, 2, 0, 0);
             DUE.is("text() of \"" + part + "\"", Due.text(x, part), stands ? 1 : -1 - part.length());
         }
+        String start = "from 0 to 1 pick 1 ";
+        String[] ends = {"swap", "choice", "choice 0", "guard", "tail", "roll", "if", "if not", "if (", "if at 0 0 0 or",
+            "if at 0 0 0 and", "if ahead", "if ahead 0", "if ahead 0 0", "if at", "if at 0", "if at 0 0", "if (at 0 0 0"};
+        for (String end : ends) {
+            isText(start + end, -1 - start.length() - end.length());
+        }
+        RolledPicks x = new RolledPicks();
+        x.sale(0, 1, 0, 1, 0);
+        DUE.is("text()", Due.text(x, start + "if lapsed"), -1 - start.length() - 9);
         isText("from 0 to 1 pick 0;", -20);
         isText("from 0 to 1 pick 0; ", -21);
     }
@@ -202,6 +220,48 @@ public final class TextRuns {
         DUE.is("at", conveying("at 0 1 2"), 432);
         DUE.is("never", conveying("at 0 1 2 and at 0 2 2"), 0);
         DUE.is("always", conveying("at 0 1 2 or not at 0 1 2"), 1296);
+    }
+
+    /** What stood on THE TAPE ahead is not read again. */
+    private static void leftOvers() {
+        RolledPicks x = new RolledPicks();
+        Due.feed(x, "from 1 to 0 pick 10 if at 0 0 0");
+        x.wipe();
+        DUE.is("text()", Due.text(x, "from 1 to 0 pick 1"), 1);
+        DUE.is("of(0, 3)", x.of(0, 3), 1);
+        DUE.is("of(0, 6)", x.of(0, 6), 0);
+        Due.feed(x, "from 1 to 0 pick 10 if at 0 0 0");
+        x.wipe();
+        DUE.is("text()", Due.text(x, "from 1 to 0 pick "), -18);
+        Due.feed(x, "from 1 to 0 pick 10 if at 0 0 0");
+        x.wipe();
+        DUE.is("text()", Due.text(x, "fro"), -1);
+        Due.feed(x, "from 1 to 0 pick 10 if at 0 0 0");
+        x.wipe();
+        DUE.is("text()", x.text(), -1);
+        StringBuilder b = new StringBuilder("from 1 to 0 pick 10");
+        while (b.length() < 119) {
+            b.append(' ');
+        }
+        DUE.is("text() of 120 bytes", Due.text(x, b + ";"), -121);
+        DUE.is("text() of 120 bytes", Due.text(x, b + " "), 1);
+    }
+
+    /** E of at least two parts at two depths one in the other, with parts of and in it. */
+    private static void deepConditions() {
+        for (int around = 0; around < 5; around++) {
+            String open = "(((((".substring(0, around);
+            String close = ")))))".substring(0, around);
+            RolledPicks x = new RolledPicks();
+            String text = "from0to1pick0if " + open + "at3 0 0or at0 0 0and(at1 0 0or at2 0 0and(at3 0 1or at0 1 1)or at1 0 1)and at2 1 2" + close;
+            DUE.is("text() of \"" + text + "\"", Due.text(x, text), 1);
+            for (int s = 0; s < 1296; s += 3 + around) {
+                boolean inner = x.place(s, 9) == 1 || x.place(s, 1) == 1;
+                boolean middle = x.place(s, 3) == 0 || x.place(s, 6) == 0 && inner || x.place(s, 3) == 1;
+                boolean outer = x.place(s, 9) == 0 || x.place(s, 0) == 0 && middle && x.place(s, 7) == 2;
+                DUE.is("holds(0, " + s + ") within " + around, x.holds(0, s), outer ? 1 : 0);
+            }
+        }
     }
 
     /** Single facts here hold under a third of all, each in a YEAR of its own. */

@@ -68,6 +68,13 @@ public final class WorthRuns {
         DUE.is("best(0, 1)", x.best(0, 1), 216 + 3 * 43);
         DUE.is("best(2, 1)", x.best(2, 1), 216);
         DUE.is("best(2, 0)", x.best(2, 0), 216 + 4 * 43);
+        x.fall(0);
+        x.fall(0);
+        x.price(0, 0);
+        x.price(1, 9);
+        x.price(2, 0);
+        DUE.is("the next one to the first", x.best(2, 0), 216 + 1);
+        DUE.is("the next one to the first", x.best(1, 1), 216 + 1);
         for (int place = 0; place < 3; place++) {
             x.price(place, 0);
         }
