@@ -95,6 +95,15 @@ public final class DealRuns {
         DUE.is("owner(0, 0)", x.owner(0, 0), 0);
         DUE.is("chance(6, 1)", x.chance(6, 1), 1296 * 2 / 3 / 3);
         DUE.is("chance(9, 1)", x.chance(9, 1), 0);
+        RolledPicks y = new RolledPicks();
+        y.sale(3, 0, 1, 9, 1);
+        DUE.is("ROLL with nowhere to go", y.conveys(0, 0, 0), Due.NONE);
+        DUE.is("of(0, 7)", y.of(0, 7), 864);
+        DUE.is("two ROLLS that would meet", y.sale(3, 0, 1, 3, 2), Due.STATE);
+        y.drop();
+        DUE.is("ROLL from YEAR 1", y.sale(3, 0, 1, 3, 2), 0);
+        DUE.is("a YEAR on", y.conveys(0, standing(0, 0, 2, 0), 0), 6);
+        DUE.is("chain, a YEAR on", y.chain(standing(0, 0, 2, 0), 6, 1), 1);
     }
 
     private static void swaps() {

@@ -277,6 +277,13 @@ public final class TextRuns {
         DUE.is("not ( )", conveying("not (at 0 0 0 or at 1 0 0)"), 576);
         DUE.is("or of three", conveying("at 0 0 0 or at 1 0 0 or at 2 0 0"), 1296 * 19 / 27);
         DUE.is("and of three", conveying("at 0 0 0 and at 1 0 0 and at 2 0 0"), 48);
+        DUE.is("one ( ) after another", conveying("(at 0 0 0) and (at 1 0 0) and (at 2 0 0)"), 48);
+        DUE.is("one ( ) after another", conveying("(at 0 0 0) and at 1 0 0 or (at 0 0 1) and (at 1 0 1)"), 288);
+        RolledPicks x = new RolledPicks();
+        Due.text(x, "from 0 to 1 pick 0 if (at 0 0 0 and (at 1 0 0))");
+        x.drop();
+        DUE.is("text()", Due.text(x, "from 0 to 1 pick 0 if (at 0 0 1 and (at 1 0 1))"), 1);
+        DUE.is("a ( ) of another TEXT leaves nothing behind", x.of(0, 7), 144);
         DUE.is("deep", conveying("(at 0 0 0 or (at 1 0 0 and (at 2 0 0 or at 3 0 0))) and not (at 0 0 1)"), 432 + 432 * 5 / 27);
     }
 
