@@ -226,7 +226,7 @@ public final class RolledPicks {
     }
 
     public int chain(int standing, int pick, int i) {
-        if (!book.isOpen(standing) || isOutside(pick, PICKS) || i < -1) {
+        if (!book.isOpen(standing) || isOutside(pick, PICKS)) {
             return finding(BEYOND);
         }
         int club = pick % CLUBS;
@@ -242,6 +242,7 @@ public final class RolledPicks {
         if (i == -1) {
             return length;
         }
+        // The document sets i no range: below -1 there is no such CLUB, as there is none behind the last.
         return length == i + 1 ? club : finding(NONE);
     }
 

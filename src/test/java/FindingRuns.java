@@ -298,11 +298,10 @@ public final class FindingRuns {
             check("chance(" + pick + ", 0)", FindingRuns::rich, Due.BEYOND, x -> x.chance(pick, 0));
             check("least(" + pick + ", 0)", FindingRuns::rich, Due.BEYOND, x -> x.least(pick, 0));
         }
-        for (int i : new int[] {1, 2, 3, MAX}) {
+        for (int i : new int[] {1, 2, 3, MAX, -2, -3, MIN, MIN + 1}) {
             check("chain(700, 4, " + i + ")", FindingRuns::rich, Due.NONE, x -> x.chain(700, 4, i));
-        }
-        for (int i : new int[] {-2, MIN}) {
-            check("chain(700, 4, " + i + ")", FindingRuns::rich, Due.BEYOND, x -> x.chain(700, 4, i));
+            check("chain(0, 4, " + i + "), not OPEN", FindingRuns::rich, Due.BEYOND, x -> x.chain(0, 4, i));
+            check("chain(700, -1, " + i + ")", FindingRuns::rich, Due.BEYOND, x -> x.chain(700, -1, i));
         }
         for (int club : new int[] {-1, 3, MIN, MAX}) {
             check("hand(700, " + club + ")", FindingRuns::rich, Due.BEYOND, x -> x.hand(700, club));

@@ -33,7 +33,12 @@ public final class OwnerRuns {
         DUE.is("chain(0, 0, -1)", x.chain(0, 0, -1), 1);
         DUE.is("chain(0, 0, 0)", x.chain(0, 0, 0), 0);
         DUE.is("chain(0, 0, 1)", x.chain(0, 0, 1), Due.NONE);
-        DUE.is("chain(0, 0, -2)", x.chain(0, 0, -2), Due.BEYOND);
+        for (int i : new int[] {-2, -3, Integer.MIN_VALUE, Integer.MAX_VALUE}) {
+            DUE.is("chain(0, 0, " + i + ")", x.chain(0, 0, i), Due.NONE);
+            DUE.is("chain(0, 5, " + i + ")", x.chain(0, 5, i), Due.NONE);
+            DUE.is("chain(1296, 0, " + i + ")", x.chain(1296, 0, i), Due.BEYOND);
+            DUE.is("chain(0, 12, " + i + ")", x.chain(0, 12, i), Due.BEYOND);
+        }
         DUE.is("owner(0, 5)", x.owner(0, 5), 1);
         DUE.is("owner(144, 5)", x.owner(144, 5), 0);
         // YEAR 2, ORDER 1 (0 2 1): 8 is ahead of 7, so they are swapped

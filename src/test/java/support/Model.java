@@ -532,14 +532,14 @@ final class Model {
     }
 
     int chain(int standing, int pick, int i) {
-        if (!isOpen(standing) || !in(pick, 0, 11) || i < -1) {
+        if (!isOpen(standing) || !in(pick, 0, 11)) {
             return find(0);
         }
         List<Integer> chain = chainOf(standing, pick);
         if (i == -1) {
             return chain.size();
         }
-        return i < chain.size() ? chain.get(i) : find(3);
+        return in(i, 0, chain.size() - 1) ? chain.get(i) : find(3);
     }
 
     int hand(int standing, int club) {
