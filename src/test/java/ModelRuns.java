@@ -166,7 +166,8 @@ public final class ModelRuns {
         int s = standing();
         int pick = dice.about(11);
         int club = dice.about(2);
-        int i = dice.to(4) == 0 ? dice.about(4) : dice.to(4) - 1;
+        int[] far = {-2, -3, 4, 5, Integer.MIN_VALUE, Integer.MIN_VALUE + 1, Integer.MAX_VALUE};
+        int i = dice.to(8) == 0 ? dice.pick(far) : dice.to(5) - 1;
         switch (dice.to(12)) {
             case 0, 1: is("owner(" + s + ", " + pick + ")", x.owner(s, pick), m.owner(s, pick)); break;
             case 2, 3, 4, 5:
