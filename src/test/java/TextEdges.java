@@ -120,20 +120,20 @@ public final class TextEdges {
 
     /** A PICK, not of a FALLEN YEAR. CONDITIONS may tell of YEARS that have FALLEN. */
     private static void picksOfFallenYears() {
-        RolledPicks x = new RolledPicks();
         for (int falls = 0; falls <= 4; falls++) {
+            RolledPicks x = new RolledPicks();
+            for (int year = 0; year < falls; year++) {
+                x.fall(0);
+            }
             for (int pick = 0; pick < 3 * falls; pick++) {
                 reads(x, "from 0 to 1 pick |" + pick, 0);
             }
+            reads(x, "from 0 to 1 pick |12", 0);
             if (falls < 4) {
                 reads(x, "from 0 to 1 pick " + 3 * falls + " if at 0 0 0", 1);
                 reads(x, "from 2 to 1 pick 11 swap 10 if ahead 0 0 1", 1);
-                x.drop();
-                x.drop();
             }
-            x.fall(0);
         }
-        reads(x, "from 0 to 1 pick |12", 0);
     }
 
     /** lapsed and a DEAL that there is by then: of the ledger, or ahead of it in the TEXT. */

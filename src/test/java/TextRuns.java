@@ -255,10 +255,11 @@ public final class TextRuns {
             RolledPicks x = new RolledPicks();
             String text = "from0to1pick0if " + open + "at3 0 0or at0 0 0and(at1 0 0or at2 0 0and(at3 0 1or at0 1 1)or at1 0 1)and at2 1 2" + close;
             DUE.is("text() of \"" + text + "\"", Due.text(x, text), 1);
+            Model at = new Model();
             for (int s = 0; s < 1296; s += 3 + around) {
-                boolean inner = x.place(s, 9) == 1 || x.place(s, 1) == 1;
-                boolean middle = x.place(s, 3) == 0 || x.place(s, 6) == 0 && inner || x.place(s, 3) == 1;
-                boolean outer = x.place(s, 9) == 0 || x.place(s, 0) == 0 && middle && x.place(s, 7) == 2;
+                boolean inner = at.place(s, 9) == 1 || at.place(s, 1) == 1;
+                boolean middle = at.place(s, 3) == 0 || at.place(s, 6) == 0 && inner || at.place(s, 3) == 1;
+                boolean outer = at.place(s, 9) == 0 || at.place(s, 0) == 0 && middle && at.place(s, 7) == 2;
                 DUE.is("holds(0, " + s + ") within " + around, x.holds(0, s), outer ? 1 : 0);
             }
         }

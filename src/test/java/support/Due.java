@@ -26,10 +26,15 @@ final class Due {
         }
     }
 
-    /** The bytes of a text come to THE TAPE, one by one. */
+    /** The bytes of a text come to THE TAPE, four by four: an object has 512 calls, no more. */
     static void feed(RolledPicks x, String text) {
-        for (int i = 0; i < text.length(); i++) {
-            x.feed(text.charAt(i), 1);
+        for (int i = 0; i < text.length(); i += 4) {
+            int n = Math.min(4, text.length() - i);
+            int bytes = 0;
+            for (int j = i; j < i + n; j++) {
+                bytes = bytes << 8 | text.charAt(j) & 255;
+            }
+            x.feed(bytes, n);
         }
     }
 
